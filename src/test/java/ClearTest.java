@@ -1,0 +1,34 @@
+/** Promise 3. */
+public final class ClearTest {
+    public static void main(String[] args) {
+        Check check = new Check("ClearTest");
+        NullKinds x = Check.program(Check.s(1, 0, 1), Check.s(1, 1, 4), Check.s(8, 0, 1), Check.s(21, 0, 0, 0, -1));
+        check.due("run", x.run(5, 6), 1);
+        check.due("all(0) ahead of it", x.all(0), Check.bits(0, 4));
+        check.due("clear()", x.clear(), 4);
+        check.due("clear() again", x.clear(), 0);
+        for (int what = 0; what <= 4; what++) {
+            check.due("ran(" + what + ")", x.ran(what), NullKinds.NOTHING);
+        }
+        for (int k = 0; k <= 3; k++) {
+            check.due("number(" + k + ")", x.number(k), NullKinds.NOTHING);
+            check.due("variable(0, " + k + ")", x.variable(0, k), -3);
+        }
+        check.due("seen", x.seen(0, 0), -1);
+        check.due("had", x.had(3), -1);
+        check.due("may", x.may(0, 0), -1);
+        check.due("faults", x.faults(0), -1);
+        check.due("all(0) behind it", x.all(0), 1);
+        check.meanThrows("behind clear()", x);
+        check.due("run of no steps", x.run(1, 2), 0);
+        check.due("its steps", x.ran(0), 0);
+        check.due("mean of a run of no steps", x.mean(), 0);
+        check.due("clear() of no steps", x.clear(), 0);
+        check.meanThrows("behind a clear() of no steps", x);
+        check.due("ran(0) behind it", x.ran(0), NullKinds.NOTHING);
+        check.due("a step more", x.step(0, 0, 0, 0, -1), 0);
+        check.due("nothing was seen of the step there now", x.seen(0, 0), 0);
+        check.due("nothing was had by it", x.had(0), 0);
+        check.end();
+    }
+}
