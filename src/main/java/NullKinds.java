@@ -240,7 +240,7 @@ public final class NullKinds {
                     && handler >= -1 && handler <= STEPS;
         }
 
-        private static boolean fits(char name, int value) {
+        private static boolean fits(int name, int value) {
             switch (name) {
                 case 'V':
                     return isVariable(value);
@@ -360,9 +360,11 @@ public final class NullKinds {
             kinds[object] = kind;
             lengths[object] = length;
             nexts[object] = NONE;
-            int start = object * LONGEST;
-            Arrays.fill(cells, start, start + LONGEST, firstCell(kind));
             made++;
+            int first = firstCell(kind);
+            for (int i = 0; i < length; i++) {
+                setCell(object, i, first);
+            }
             return object;
         }
 
@@ -897,14 +899,14 @@ public final class NullKinds {
             if (code != SET_NEXT && code != SET_CELL && code != MOVE) {
                 return;
             }
-            int to = kindsAt(step, program.as[step]);
-            int what = kindsAt(step, program.bs[step]);
-            if (code == SET_NEXT && share(to, ANY_THING)) {
-                addToAll(ALL_NEXTS, what);
+            int first = kindsAt(step, program.as[step]);
+            int second = kindsAt(step, program.bs[step]);
+            if (code == SET_NEXT && share(first, ANY_THING)) {
+                addToAll(ALL_NEXTS, second);
             } else if (code == SET_CELL) {
-                storeCell(to, what);
+                storeCell(first, second);
             } else if (code == MOVE) {
-                storeMoved(to, what);
+                storeMoved(first, second);
             }
         }
 

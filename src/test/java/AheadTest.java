@@ -159,6 +159,10 @@ public final class AheadTest {
         faults("THINGS with a NAIL to BOLTS", two(k(7), k(8), move, nail, into), 6, 3, 4);
         faults("THINGS with a BOLT to ROWS", two(k(7), k(9), move, bolt, into), 6, 3, 4);
         faults("BOLTS with a BOLT to ROWS", two(k(8), k(9), move, bolt, into), 6, 3, 4);
+        int[] screw = Check.s(1, 2, 4);
+        faults("THINGS with a SCREW to ROWS", two(k(7), k(9), move, screw, into), 6, 3, 4);
+        faults("BOLTS with a SCREW to ROWS", two(k(8), k(9), move, screw, into), 6, 3, 4);
+        faults("THINGS with a SCREW to BOLTS", two(k(7), k(8), move, screw, into), 6, 3);
         faults("BOLTS with a BOLT to THINGS", two(k(8), k(7), move, bolt, into), 6, 3);
         faults("THINGS with a NAIL to THINGS", two(k(7), k(7), move, nail, into), 6, 3);
     }

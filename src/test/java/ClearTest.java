@@ -29,6 +29,22 @@ public final class ClearTest {
         check.due("a step more", x.step(0, 0, 0, 0, -1), 0);
         check.due("nothing was seen of the step there now", x.seen(0, 0), 0);
         check.due("nothing was had by it", x.had(0), 0);
+        tellsAnew(check);
         check.end();
+    }
+
+    /** Of what was told ahead of the steps before nothing is left. */
+    private static void tellsAnew(Check check) {
+        NullKinds x = Check.program(Check.s(1, 0, 1), Check.s(6, 0, 3, 0), Check.s(21));
+        check.due("cast(1)", x.cast(1), 2);
+        check.due("may(1, 0)", x.may(1, 0), Check.bits(1));
+        check.due("clear()", x.clear(), 3);
+        check.due("step", x.step(23, 0, 0, 0, -1), 0);
+        check.due("step", x.step(6, 0, 3, 0, -1), 1);
+        check.due("step", x.step(21, 0, 0, 0, -1), 2);
+        check.due("cast(1), not come to now", x.cast(1), -3);
+        check.due("may(1, 0)", x.may(1, 0), 0);
+        check.due("faults(1)", x.faults(1), 0);
+        check.due("faults(2)", x.faults(2), 0);
     }
 }

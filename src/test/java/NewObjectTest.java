@@ -22,6 +22,10 @@ public final class NewObjectTest {
         check.meanThrows("on a new object", x);
         check.due("clear()", x.clear(), 0);
         NullKinds other = new NullKinds();
+        check.due("run of no steps", other.run(8, 9), 0);
+        check.due("ran(0)", other.ran(0), 0);
+        check.due("mean()", other.mean(), 0);
+        check.due("number(1)", other.number(1), 9);
         check.due("step on one object", x.step(0, 0, 0, 0, -1), 0);
         check.due("clear() of another object", other.clear(), 0);
         check.end();

@@ -28,6 +28,7 @@ public final class RunTest {
         jumps();
         moves();
         movesWithFaults();
+        lastCells();
         handlers();
         limits();
         CHECK.end();
@@ -250,6 +251,11 @@ public final class RunTest {
                 move(fault != 0 ? fault : INDEX, from, to, 4, 3, 0);
             }
         }
+        for (int kind = 5; kind <= 9; kind++) {
+            move(0, kind, kind, 0, 20, 20);
+            move(INDEX, kind, kind, 1, 20, 20);
+            move(INDEX, kind, kind, 0, 20, 21);
+        }
         // INTS 5, 6, 7 over itself: as if by way of others, 5, 5, 6.
         NullKinds x = after("over itself", 0, 1, 3, get(0, 5), Check.s(16, 2, 5), Check.s(15, 0, 3, 2), Check.s(16, 2, 6),
                 Check.s(15, 0, 0, 2), Check.s(16, 3, 2), Check.s(16, 2, 7), Check.s(15, 0, 3, 2), Check.s(22, 0, 0, 0),
@@ -274,12 +280,29 @@ public final class RunTest {
         CHECK.due("nothing went back", rows.variable(3, 0), 0);
         CHECK.due("the fault", rows.ran(2), STORE);
         CHECK.due("its step", rows.ran(3), 9);
-        // Things may not go into ROWS.
-        after("a thing into ROWS", STORE, 0, 1, get(0, 8), get(1, 9), get(2, 3), Check.s(10, 0, 2, 0), Check.s(16, 3, 1),
-                Check.s(22, 0, 1, 0));
+        // Things may not go into ROWS, and INTS that are in ROWS into no others.
+        for (int kind = 1; kind <= 4; kind++) {
+            after("kind " + kind + " into ROWS", STORE, 0, 1, get(0, 7), get(1, 9), get(2, kind), Check.s(10, 0, 2, 0),
+                    Check.s(16, 3, 1), Check.s(22, 0, 1, 0));
+            after("kind " + kind + " into BOLTS", kind < 3 ? STORE : 0, 0, 1, get(0, 7), get(1, 8), get(2, kind),
+                    Check.s(10, 0, 2, 0), Check.s(16, 3, 1), Check.s(22, 0, 1, 0));
+        }
         // ROWS of which a cell is nothing go into ROWS.
         after("ROWS into ROWS", 0, 0, 2, get(0, 7), get(1, 9), get(2, 9), Check.s(16, 3, 1), Check.s(22, 0, 1, 0), Check.s(16, 3, 2),
                 Check.s(22, 1, 2, 0));
+    }
+
+    /** The last of 40 objects, with 20 cells: the last cell of it is used, and all of them moved. */
+    private static void lastCells() {
+        for (int kind = 5; kind <= 7; kind += 2) {
+            NullKinds x = Check.program(Check.s(16, 2, 1), Check.s(16, 3, 39), Check.s(1, 1, 3), Check.s(17, 0, 2), Check.s(19, 0, 3, 2),
+                    Check.s(16, 3, 20), Check.s(2, 0, kind, 3), Check.s(16, 0, 19), kind == 5 ? Check.s(15, 0, 0, 1) : Check.s(10, 0, 1, 0),
+                    Check.s(16, 2, 0), Check.s(22, 0, 0, 2), kind == 5 ? Check.s(14, 2, 0, 0) : Check.s(9, 2, 0, 0));
+            CHECK.due("run", x.run(0, -9), 0);
+            CHECK.due("objects", x.ran(4), 40);
+            CHECK.due("the number in the last cell", x.number(2), kind == 5 ? -9 : 0);
+            CHECK.due("the thing in the last cell", x.variable(2, 1), kind == 5 ? -3 : 38);
+        }
     }
 
     private static void handlers() {
