@@ -1,6 +1,9 @@
-/** Counts the answers that are not as due, prints them, and makes objects with steps in them. */
+/** Counts the answers that are not as due, and prints them with the sentence that they are due by. */
 final class Check {
     private final String name;
+    private String sentence = "";
+    private int sentences = 0;
+    private int askedOfSentence = 1;
     private int asked = 0;
     private int wrong = 0;
 
@@ -8,13 +11,32 @@ final class Check {
         this.name = name;
     }
 
+    /** The answers from here on are due by this sentence of the document. */
+    void says(String text) {
+        needAnswers();
+        sentence = ", by '" + text + "'";
+        sentences++;
+        askedOfSentence = 0;
+    }
+
+    private void needAnswers() {
+        if (askedOfSentence == 0) {
+            note("no answer was asked for" + sentence);
+        }
+    }
+
+    private void note(String text) {
+        wrong++;
+        if (wrong <= 40) {
+            System.out.println(name + ": " + text);
+        }
+    }
+
     void due(String call, long got, long want) {
         asked++;
+        askedOfSentence++;
         if (got != want) {
-            wrong++;
-            if (wrong <= 40) {
-                System.out.println(name + ": " + call + " answered " + got + ", due is " + want);
-            }
+            note(call + " answered " + got + ", due is " + want + sentence);
         }
     }
 
@@ -37,39 +59,11 @@ final class Check {
     }
 
     void end() {
-        System.out.println(name + ": " + (asked - wrong) + " of " + asked + " answers as due");
+        needAnswers();
+        System.out.println(name + ": " + asked + " answers, " + wrong + " not as due"
+                + (sentences > 0 ? ", of " + sentences + " sentences" : ""));
         if (wrong != 0) {
             System.exit(1);
         }
-    }
-
-    /** The kinds, or the faults, as bits. */
-    static int bits(int... which) {
-        int set = 0;
-        for (int one : which) {
-            set |= 1 << one;
-        }
-        return set;
-    }
-
-    /** A step's code, a, b, c, handler; what is left out is 0, the handler -1. */
-    static int[] s(int... parts) {
-        int[] step = {0, 0, 0, 0, -1};
-        System.arraycopy(parts, 0, step, 0, parts.length);
-        return step;
-    }
-
-    static NullKinds program(int[]... steps) {
-        NullKinds x = new NullKinds();
-        for (int i = 0; i < steps.length; i++) {
-            if (add(x, steps[i]) != i) {
-                throw new IllegalStateException("step " + i + " of the test was refused");
-            }
-        }
-        return x;
-    }
-
-    static int add(NullKinds x, int... step) {
-        return x.step(step[0], step[1], step[2], step[3], step[4]);
     }
 }

@@ -1,10 +1,10 @@
 /** Promise 3. */
-public final class ClearTest {
+public final class ClearTest extends Programs {
     public static void main(String[] args) {
         Check check = new Check("ClearTest");
-        NullKinds x = Check.program(Check.s(1, 0, 1), Check.s(1, 1, 4), Check.s(8, 0, 1), Check.s(21, 0, 0, 0, -1));
+        NullKinds x = program(s(1, 0, 1), s(1, 1, 4), s(8, 0, 1), s(21, 0, 0, 0, -1));
         check.due("run", x.run(5, 6), 1);
-        check.due("all(0) ahead of it", x.all(0), Check.bits(0, 4));
+        check.due("all(0) ahead of it", x.all(0), bits(0, 4));
         check.due("clear()", x.clear(), 4);
         check.due("clear() again", x.clear(), 0);
         for (int what = 0; what <= 4; what++) {
@@ -35,9 +35,9 @@ public final class ClearTest {
 
     /** Of what was told ahead of the steps before nothing is left. */
     private static void tellsAnew(Check check) {
-        NullKinds x = Check.program(Check.s(1, 0, 1), Check.s(6, 0, 3, 0), Check.s(21));
+        NullKinds x = program(s(1, 0, 1), s(6, 0, 3, 0), s(21));
         check.due("cast(1)", x.cast(1), 2);
-        check.due("may(1, 0)", x.may(1, 0), Check.bits(1));
+        check.due("may(1, 0)", x.may(1, 0), bits(1));
         check.due("clear()", x.clear(), 3);
         check.due("step", x.step(23, 0, 0, 0, -1), 0);
         check.due("step", x.step(6, 0, 3, 0, -1), 1);

@@ -2,7 +2,7 @@ import java.util.ArrayList;
 import java.util.List;
 
 /** Many programs by a fixed rule: NullKinds against the models, and runs against what was told ahead. */
-public final class ModelTest {
+public final class ModelTest extends Programs {
     private static final Check CHECK = new Check("ModelTest");
     private static final int PROGRAMS = 6000;
     private static final String[] NAMES = {
@@ -87,7 +87,7 @@ public final class ModelTest {
     private static void compare(int p, List<int[]> steps, int[] faultsSeen, int[] states) {
         NullKinds x = new NullKinds();
         for (int i = 0; i < steps.size(); i++) {
-            CHECK.due("step", Check.add(x, steps.get(i)), i);
+            CHECK.due("step", add(x, steps.get(i)), i);
             if (p % 7 == 0) {
                 x.all(0);
             }

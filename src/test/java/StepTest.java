@@ -1,5 +1,5 @@
 /** Promise 2: the bounds of all that a code names, what it does not name, room, what is forgotten. */
-public final class StepTest {
+public final class StepTest extends Programs {
     // A column a code, as the document's terms name a, b, c: V variable, N number, K kind 1 to 4,
     // A kind 5 to 9, T type, S step, '-' not looked at.
     private static final String[] NAMES = {
@@ -50,7 +50,7 @@ public final class StepTest {
         boolean good = name == '-' || value >= low(name) && value <= high(name);
         NullKinds x = new NullKinds();
         String call = "step(" + code + ", " + step[1] + ", " + step[2] + ", " + step[3] + ", -1)";
-        CHECK.due(call, Check.add(x, step), good ? 0 : -2);
+        CHECK.due(call, add(x, step), good ? 0 : -2);
         CHECK.due("clear() behind " + call, x.clear(), good ? 1 : 0);
     }
 
@@ -88,11 +88,11 @@ public final class StepTest {
     }
 
     private static void tryForgetting() {
-        NullKinds x = Check.program(Check.s(21, 0, 0, 0, 1));
+        NullKinds x = program(s(21, 0, 0, 0, 1));
         CHECK.due("run", x.run(3, 4), 0);
         CHECK.due("refused", x.step(0, 6, 0, 0, -1), -2);
         CHECK.due("seen behind a refusal", x.seen(0, 0), 1);
-        CHECK.due("had behind a refusal", x.had(0), Check.bits(7));
+        CHECK.due("had behind a refusal", x.had(0), bits(7));
         CHECK.due("mean behind a refusal", x.mean(), 1);
         CHECK.due("a step more", x.step(0, 0, 0, 0, -1), 1);
         CHECK.due("seen is forgotten", x.seen(0, 0), 0);

@@ -1,5 +1,5 @@
 /** Promise 6. */
-public final class VariableTest {
+public final class VariableTest extends Programs {
     private static final Check CHECK = new Check("VariableTest");
 
     public static void main(String[] args) {
@@ -9,8 +9,8 @@ public final class VariableTest {
         CHECK.due("what out of bounds, ahead of no run", none.variable(5, 4), -2);
         CHECK.due("what out of bounds, below", none.variable(0, -1), -2);
         CHECK.due("no run", none.variable(0, 0), -3);
-        NullKinds x = Check.program(Check.s(1, 0, 3), Check.s(2, 1, 6, 0), Check.s(8, 0, 1), Check.s(1, 2, 2), Check.s(2, 4, 9, 1),
-                Check.s(3, 5, 4));
+        NullKinds x = program(s(1, 0, 3), s(2, 1, 6, 0), s(8, 0, 1), s(1, 2, 2), s(2, 4, 9, 1),
+                s(3, 5, 4));
         CHECK.due("run", x.run(7, 0), 0);
         row(x, 0, 3, 0, -3, 6);
         row(x, 1, 6, 1, 7, -3);
@@ -23,7 +23,7 @@ public final class VariableTest {
         CHECK.due("what out of bounds behind a run", x.variable(0, 4), -2);
         CHECK.due("what out of bounds behind a run", x.variable(0, Integer.MIN_VALUE), -2);
         for (int kind = 1; kind <= 9; kind++) {
-            NullKinds one = Check.program(Check.s(kind < 5 ? 1 : 2, 3, kind, 1));
+            NullKinds one = program(s(kind < 5 ? 1 : 2, 3, kind, 1));
             CHECK.due("run", one.run(0, 20), 0);
             row(one, 3, kind, 0, kind < 5 ? -3 : 20, kind < 5 ? 0 : -3);
         }
