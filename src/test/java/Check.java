@@ -45,13 +45,14 @@ final class Check {
     }
 
     void meanThrows(String when, NullKinds x) {
-        boolean thrown = false;
+        String text = null;
         try {
             x.mean();
         } catch (ArithmeticException e) {
-            thrown = true;
+            text = String.valueOf(e.getMessage());
         }
-        holds("mean() throws " + when, thrown);
+        holds("mean() throws " + when, text != null);
+        holds("it is not the machine that throws " + when, !"/ by zero".equals(text));
     }
 
     int wrong() {

@@ -172,6 +172,15 @@ public final class MoveBoundsTest extends Programs {
                 CHECK.due("cell " + cell + " of row " + i, n.variable(2 + cell, 0), due);
             }
         }
+        // ROWS may have none of the things that THINGS, BOLTS have.
+        for (int from = 7; from <= 8; from++) {
+            for (int kind = from == 7 ? 1 : 3; kind <= 4; kind++) {
+                NullKinds rows = program(get(0, from), get(1, 9), s(1, 2, kind), s(10, 0, 2, 0), s(16, 3, 1), s(22, 0, 1, 0));
+                CHECK.due("kind " + kind + " into ROWS", rows.run(0, 1), 1);
+                CHECK.due("its FAULT", rows.ran(2), 4);
+                CHECK.due("its STEP", rows.ran(3), 5);
+            }
+        }
         NullKinds things = into(7, 1, 2, 3, 4);
         CHECK.due("run into THINGS", things.run(0, 0), 0);
         CHECK.due("no FAULT", things.ran(1), 0);

@@ -60,6 +60,13 @@ abstract class Programs {
         return steps;
     }
 
+    /** All 32 steps, of which each leads behind the last one. */
+    static NullKinds full() {
+        int[][] steps = new int[32][];
+        Arrays.fill(steps, s(20, 32));
+        return program(steps);
+    }
+
     static int[][] join(int[][] first, int[]... more) {
         List<int[]> steps = new ArrayList<>(Arrays.asList(first));
         steps.addAll(Arrays.asList(more));
